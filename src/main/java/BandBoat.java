@@ -758,19 +758,18 @@ public final class BandBoat {
         }
 
         private int wound(int parts) {
-            int plain = cut(force * parts, stretch);
+            if (stretch == 0) {
+                return 0;
+            }
+            int plain = force * parts / stretch;
             if (parts > knot) {
-                plain += cut(2 * force * (parts - knot), stretch);
+                plain += 2 * force * (parts - knot) / stretch;
             }
             return plain * warmth / 100;
         }
 
         private int loosed(int parts) {
             return wound(parts) * returned / 100 * fresh / 100;
-        }
-
-        private int spinOf(int parts) {
-            return Math.min(cut(loosed(parts), spinBy), parts);
         }
     }
 
@@ -813,7 +812,7 @@ public final class BandBoat {
         }
 
         private void step(Rig rig, Band band, int z) {
-            int spin = band.spinOf(parts);
+            int spin = Math.min(cut(band.loosed(parts), band.spinBy), parts);
             int push = Math.max(rig.pitch * spin / 10 - pace, 0) * rig.width / 10;
             int drag = pace * pace * rig.drag / 1000 + gustOf(rig.gust, z);
             int before = pace;
@@ -840,11 +839,11 @@ public final class BandBoat {
         }
     }
 
-    /** A RUN, with the PLACE behind each of its TENTHS. */
+    /** A RUN, with the PLACE behind each of its TENTHS (but those that only a RUN of TWO has). */
     private static final class Trial {
         private final Motion motion = new Motion();
         private final Band band = new Band();
-        private final int[] path = new int[TWO_TENTHS_MOST + 1];
+        private final int[] path = new int[TENTHS_MOST + 1];
         private int tenths;
         private int topPace;
         private int emptyAt;
@@ -861,19 +860,27 @@ public final class BandBoat {
             topPace = 0;
             emptyAt = turns == 0 ? 0 : NONE;
             boolean calm = z < 0 || rig.gust == 0;
-            for (int i = 1; i <= most && i < path.length && !motion.isOver(); i++) {
+            for (int i = 1; i <= most && !motion.isOver(); i++) {
                 if (calm && motion.steady) {
                     motion.drift(rig, 0);
                 } else {
                     motion.step(rig, band, z);
                 }
-                tenths = i;
-                path[i] = motion.place;
-                topPace = Math.max(topPace, motion.pace);
-                if (motion.parts == 0 && emptyAt == NONE) {
-                    emptyAt = i;
-                    motion.parts = twice ? TURN_PARTS * turns : 0;
+                note(i);
+                if (twice && emptyAt == i) {
+                    motion.parts = TURN_PARTS * turns;
                 }
+            }
+        }
+
+        private void note(int i) {
+            tenths = i;
+            topPace = Math.max(topPace, motion.pace);
+            if (i < path.length) {
+                path[i] = motion.place;
+            }
+            if (motion.parts == 0 && emptyAt == NONE) {
+                emptyAt = i;
             }
         }
 

@@ -40,10 +40,22 @@ public final class BestTest {
             Check.due("best BAD", x.best(row[0], row[1], row[2]), BandBoat.BAD);
         }
         Check.due("best(1, 400, 1)", x.best(1, 400, 1), 1);
+        longest();
         x.wipe();
         Check.put(x, "q20,30,5,9;b0,2,10;");
         x.lay();
         Check.due("best of another", x.best(1, 11, 0), 6569);
+    }
+
+    /** Strong rubber in a light boat with much drag: the longest band is best, if there is rubber for it. */
+    private static void longest() {
+        BandBoat x = Check.boat("q97,1,3,99;b0,1,1;p1,6;h4,82,0;");
+        BandBoat y = Check.boat("q97,1,3,99;b0,1,40;p9,6;h4,82,0;");
+        int[] due = {y.run(334, -1, 1), 1, 40, 9};
+        for (int what = 0; what <= 3; what++) {
+            Check.due("best(40, 334, " + what + ")", x.best(40, 334, what), due[what]);
+        }
+        Check.due("best(39, 334, 2)", x.best(39, 334, 2) < 40 ? 1 : 0, 1);
     }
 
     private static void just() {
@@ -77,12 +89,32 @@ public final class BestTest {
             Check.due("span(70, " + z + ", 0)", x.span(70, z, 0), least);
             Check.due("span(70, " + z + ", 1)", x.span(70, z, 1), most);
         }
+        spanRoundTheEnd();
         Check.due("span(0, 0, 0)", x.span(0, 0, 0), 0);
         Check.due("span(0, 0, 1)", x.span(0, 0, 1), 0);
         int[][] wrong = {{-1, 0, 0}, {401, 0, 0}, {9, -1, 0}, {9, 10000, 0}, {9, 0, -1}, {9, 0, 2}};
         for (int[] row : wrong) {
             Check.due("span BAD", x.span(row[0], row[1], row[2]), BandBoat.BAD);
         }
+    }
+
+    /** Behind z 9999 comes z 0, which is here the least or the greatest for some n. */
+    private static void spanRoundTheEnd() {
+        BandBoat x = Check.boat(STUFF + "b0,3,7;p5,8;" + REST);
+        int told = 0;
+        for (int n = 5; n <= 400; n += 5) {
+            int least = Integer.MAX_VALUE;
+            int most = 0;
+            for (int z = 9991; z <= 9999; z++) {
+                least = Math.min(least, x.run(n, z, 1));
+                most = Math.max(most, x.run(n, z, 1));
+            }
+            int first = x.run(n, 0, 1);
+            told += first < least || first > most ? 1 : 0;
+            Check.due("span(" + n + ", 9991, 0)", x.span(n, 9991, 0), Math.min(least, first));
+            Check.due("span(" + n + ", 9991, 1)", x.span(n, 9991, 1), Math.max(most, first));
+        }
+        Check.due("z 0 counts", told > 0 ? 1 : 0, 1);
     }
 
     private static void straight() {

@@ -105,6 +105,9 @@ public final class ModelTest {
     }
 
     private String stuff() {
+        if (draws.nextInt(5) == 0) {
+            return "q" + in(90, 99) + "," + in(0, 3) + "," + in(1, 3) + "," + in(3, 99) + ";";
+        }
         int k = in(1, 40);
         return "q" + in(1, 99) + "," + in(0, draws.nextBoolean() ? 30 : 90) + "," + k + "," + in(k, 99) + ";";
     }

@@ -73,6 +73,22 @@ public final class TextTest {
         Check.put(x, "r5;");
         Check.due("old bytes are gone", x.fault(), BandBoat.NONE);
         Check.due("count", x.count(1), 3);
+        Check.due("wipe", x.wipe(), 3);
+        Check.put(x, "r5");
+        Check.due("an old ; ends nothing", x.fault(), 0);
+        fullTexts();
+    }
+
+    /** A TEXT of 300 bytes, with and without its last sign. */
+    private static void fullTexts() {
+        String most = "r1;".repeat(99);
+        good(most + "r1;");
+        bad(most + "r12", 297);
+        bad(most + "r1,", 297);
+        bad(most + "rrr", 297);
+        BandBoat x = Check.boat("q09,0,1,1;b0,1,01;" + "r1;".repeat(94));
+        Check.due("count", x.count(1), 300);
+        Check.due("lay of 300 bytes", x.lay(), 1);
     }
 
     private static void good(String text) {
