@@ -106,10 +106,19 @@ public final class GaugeTest {
 
     /** Each S and P is LAID for itself. */
     private static void told() {
+        told(12, new int[][] {{300, 20}, {2000, 90}});
+        told(9, new int[][] {{40, 9}, {300, 20}, {900, 50}, {901, 50}});
+        told(0, new int[][] {{30, 1}});
+        told(0, new int[][] {{30, 2}});
+        told(1, new int[][] {{30, 2}});
+        told(1, new int[][] {{30, 3}});
+        told(50, new int[][] {{30, 3}});
+        told(50, new int[][] {{8000, 600}});
+    }
+
+    private static void told(int e, int[][] marks) {
         String stuff = "q40,15,6,30;b0,";
         String rest = "h7,25,3;r1;c4;a2;w8;";
-        int[][] marks = {{300, 20}, {2000, 90}};
-        int e = 12;
         BandBoat x = Check.boat(stuff + "5,9;p6,7;" + rest);
         for (int[] m : marks) {
             x.mark(m[0], m[1]);
@@ -132,10 +141,11 @@ public final class GaugeTest {
         }
         Check.due("some are told", found[0] > 3 ? 1 : 0, 1);
         for (int what = 0; what <= 9; what++) {
-            Check.due("told(12, " + what + ")", x.told(e, what), found[what]);
+            Check.due("told(" + e + ", " + what + ")", x.told(e, what), found[what]);
         }
         Check.due("what is LAID stays", x.run(50, 4, 1), Check.boat(stuff + "5,9;p6,7;" + rest).run(50, 4, 1));
-        Check.due("mark", x.mark(99999, 1), 3);
+        x.forget();
+        Check.due("mark", x.mark(99999, 1), 1);
         for (int what = 0; what <= 9; what++) {
             Check.due("none is told", x.told(e, what), what == 0 ? 0 : BandBoat.NONE);
         }

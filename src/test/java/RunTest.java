@@ -9,6 +9,7 @@ public final class RunTest {
         pull();
         run();
         runEnds();
+        runAsBoat();
         limits();
         when();
         lost();
@@ -85,6 +86,36 @@ public final class RunTest {
         BandBoat calm = Check.boat("q1,0,40,99;b0,1,40;h1,1,0;");
         Check.due("too weak: tenths", calm.run(1, -1, 0), 600);
         Check.due("too weak: T is never 0", calm.run(1, -1, 4), BandBoat.NONE);
+    }
+
+    /** A RUN is what THE BOAT does, TENTH by TENTH: weak and strong winds, light and heavy hulls. */
+    private static void runAsBoat() {
+        String[] bands = {"q30,30,5,9;b0,2,5;p5,12;", SUDDEN};
+        String[] hulls = {"h1,1,9;r5;", "h1,50,0;", "h2,9,20;r20;", "h40,5,3;"};
+        for (String band : bands) {
+            for (String hull : hulls) {
+                for (int w = 0; w <= 9; w++) {
+                    for (int n = 3; n <= 250; n += 80) {
+                        runAsBoat(Check.boat(band + hull + "w" + w + ";"), n, 13 * n + w);
+                    }
+                }
+            }
+        }
+    }
+
+    private static void runAsBoat(BandBoat x, int n, int z) {
+        x.wind(n);
+        int tenths = 0;
+        int top = 0;
+        while (tenths < 600 && x.now(0) + x.now(1) > 0) {
+            x.go(1, z);
+            tenths++;
+            top = Math.max(top, x.now(1));
+        }
+        Check.due("run TENTHS", x.run(n, z, 0), tenths);
+        Check.due("run PLACE", x.run(n, z, 1), x.now(2));
+        Check.due("run PACE", x.run(n, z, 2), top);
+        Check.due("run SIDE", x.run(n, z, 3), x.now(4));
     }
 
     private static void limits() {

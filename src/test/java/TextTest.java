@@ -177,6 +177,10 @@ public final class TextTest {
         Check.due("back", x.back(), BandBoat.NO);
         Check.due("the text stays", x.count(1), 40);
         Check.due("lay again", x.lay(), 2);
+        x.wipe();
+        Check.put(x, "q9,9,9,9;");
+        Check.due("an earlier band does not count", x.lay(), BandBoat.NO);
+        Check.due("stuffs", x.count(0), 2);
         whatIsNotTold();
     }
 
