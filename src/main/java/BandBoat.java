@@ -364,17 +364,13 @@ public final class BandBoat {
         toldMemo.drop();
     }
 
-    private int calmPlace(Rig rig, int n) {
-        trial.make(rig, n, Z_CALM, TENTHS_MOST, false);
-        return trial.motion.place;
-    }
-
     private void learnCalmPlaces() {
         if (calmPlacesKnown) {
             return;
         }
         for (int n = 0; n < calmPlaces.length; n++) {
-            calmPlaces[n] = calmPlace(laid, n);
+            trial.make(laid, n, Z_CALM, TENTHS_MOST, false);
+            calmPlaces[n] = trial.motion.place;
         }
         calmPlacesKnown = true;
     }
@@ -404,9 +400,9 @@ public final class BandBoat {
     private void searchPitch(int n) {
         for (int p = 1; p <= PITCH_MOST; p++) {
             tried.pitch = p;
-            int place = calmPlace(tried, n);
-            if (place > bestMemo.answer(0)) {
-                bestMemo.put(0, place);
+            trial.make(tried, n, Z_CALM, TENTHS_MOST, false);
+            if (trial.motion.place > bestMemo.answer(0)) {
+                bestMemo.put(0, trial.motion.place);
                 bestMemo.put(1, tried.strands);
                 bestMemo.put(2, tried.length);
                 bestMemo.put(3, p);
