@@ -45,6 +45,25 @@ final class Check {
         return x;
     }
 
+    static void same(String what, long[] got, long[] want) {
+        due(what + ": how many answers", got.length, want.length);
+        for (int i = 0; i < got.length && i < want.length; i++) {
+            due(what + ": answer " + i, got[i], want[i]);
+        }
+    }
+
+    static void truth(String what, boolean holds) {
+        due(what, holds ? 1 : 0, 1);
+    }
+
+    /** Answers that hang on every number that a TEXT can tell. */
+    static long[] answersOf(BandBoat x) {
+        return new long[] {x.count(0), x.pull(50, false), x.pull(777, false), x.pull(40000, false), x.pull(777, true),
+            x.pull(40000, true), x.run(60, 77, 0), x.run(60, 77, 1), x.run(60, 77, 2), x.run(60, 77, 3), x.run(60, 77, 4),
+            x.run(400, 9, 1), x.run(400, 9, 3), x.run(400, -1, 1), x.run(400, -1, 2), x.run(400, -1, 3), x.snap(3),
+            x.snap(20), x.snap(95), x.lost(20, 0), x.lost(20, 1)};
+    }
+
     static int faultOf(String text) {
         BandBoat x = new BandBoat();
         put(x, text);
