@@ -25,6 +25,7 @@ public final class BestEdgeTest {
         twoRanges();
         twoOf1200Tenths();
         twoWindsAgainOnce();
+        noOtherIsWoundAgain();
         aSearchIsOfWhatIsLaid();
         Check.end("BestEdgeTest");
     }
@@ -43,7 +44,8 @@ public final class BestEdgeTest {
     /** 'BEST for g of rubber (1 to 99), n turns' (0 to 400). */
     private static void bestRanges() {
         BandBoat x = new BandBoat();
-        int[][] wrong = {{0, 60, 0}, {100, 60, 0}, {-1, 60, 0}, {5, -1, 0}, {5, 401, 0}, {5, 60, -1}, {5, 60, 4}};
+        int[][] wrong = {{0, 60, 0}, {0, 60, 1}, {0, 60, 2}, {0, 60, 3}, {100, 60, 0}, {100, 60, 1}, {-1, 60, 1}, {5, -1, 0},
+            {5, -1, 1}, {5, 401, 0}, {5, 401, 3}, {5, 60, -1}, {5, 60, 4}};
         for (int[] row : wrong) {
             Check.due("best(" + row[0] + ", " + row[1] + ", " + row[2] + ")", x.best(row[0], row[1], row[2]), BAD);
         }
@@ -201,6 +203,10 @@ public final class BestEdgeTest {
         Check.due("just(99999, 0)", far.just(99999, 0), 400);
         Check.due("just(99999, 1)", far.just(99999, 1), far.run(400, -1, 1));
         Check.truth("399 is not as far", far.run(399, -1, 1) < far.run(400, -1, 1));
+        // 20 n by 99 is the PACE for good: 80 from 396 turns on, 81 would be by 401.
+        BandBoat heavy = Check.boat(SUDDEN + "h99,1,0;");
+        Check.due("400 at most", heavy.just(99999, 0), 396);
+        Check.due("400 at most", heavy.just(99999, 1), 600 * 80);
         BandBoat held = Check.boat("q1,0,1,1;b0,1,40;h99,99,0;");
         Check.due("none goes", held.just(99999, 0), 0);
         Check.due("none goes", held.just(99999, 1), 0);
@@ -392,8 +398,44 @@ public final class BestEdgeTest {
         Check.due("two(400)", Check.boat(SUDDEN + "h99,10,0;").two(400), place);
         // Too heavy to be moved: over, once T is 0 for the second time.
         Check.due("held", Check.boat(SUDDEN + "h99,10,0;").two(4), 0);
-        // A RUN of 600 TENTHS is not wound again.
-        Check.due("run", Check.boat(SUDDEN + "h99,10,0;").run(400, -1, 1), 600 * 80);
+    }
+
+    /** Only TWO is wound again: no other call is, where T is 0 behind the first TENTH. */
+    private static void noOtherIsWoundAgain() {
+        String text = SUDDEN + "h99,10,20;";
+        BandBoat x = Check.boat(text);
+        Check.truth("it would tell", x.two(400) > 1200 * 80);
+        Check.due("run", x.run(400, -1, 1), 600 * 80);
+        Check.due("when", x.when(400, -1, 80 + 81), 3);
+        Check.due("just", x.just(99999, 1), 600 * 80);
+        Check.due("span", x.span(400, 5, 0), 600 * 80);
+        Check.due("span", x.span(400, 5, 1), 600 * 80);
+        int rudder = 0;
+        for (int r = 1; r <= 20; r++) {
+            rudder = suddenOff(r) < suddenOff(rudder) ? r : rudder;
+        }
+        Check.due("straight", x.straight(400, 0), rudder);
+        Check.due("straight", x.straight(400, 1), Check.boat(text + "r" + rudder + ";").run(400, -1, 3));
+        int told = 0;
+        int[] best = {-1, 0, 0, 0};
+        for (int s = 1; s <= 8; s++) {
+            for (int p = 1; p <= 9; p++) {
+                BandBoat y = Check.boat("q99,0,40,99;b0," + s + ",1;p" + p + ",20;h99,10,20;");
+                for (int n = 10; n <= 400; n += 10) {
+                    told += y.when(n, -1, 240) == 3 ? 1 : 0;
+                }
+                int place = y.run(400, -1, 1);
+                best = place > best[0] ? new int[] {place, s, 1, p} : best;
+            }
+        }
+        x.mark(240, 3);
+        Check.due("told", x.told(0, 0), told);
+        bests(text, 1, 400, place("q99,0,40,99;b0,1,1;p9,20;h99,10,20;", 400), 1, 1, 9);
+        bests(text, 8, 400, best);
+    }
+
+    private static int suddenOff(int r) {
+        return Math.abs(Check.boat(SUDDEN + "h99,10,20;r" + r + ";").run(400, -1, 3) - 10000000);
     }
 
     /** Searched, LAID anew, searched again with the same numbers: the answer is that of what is LAID. */
@@ -411,7 +453,8 @@ public final class BestEdgeTest {
                 Check.due("straight", x.straight(50, what), Check.boat(text).straight(50, what));
             }
             Check.due("wise", x.wise(), Check.boat(text).wise());
-            Check.due("told", x.told(9, 0), 2880);
+            Check.due("told without MARKS", x.told(9, 0), 2880);
+            Check.due("fits without READINGS", x.fits(99, 0), 9009);
             x.mark(300, 20);
             BandBoat y = Check.boat(text);
             y.mark(300, 20);
@@ -429,6 +472,9 @@ public final class BestEdgeTest {
             Check.due("span", x.span(n, 7, 0), Check.boat(WINDY).span(n, 7, 0));
             Check.due("span", x.span(n, 77, 0), Check.boat(WINDY).span(n, 77, 0));
             Check.due("straight", x.straight(n, 1), Check.boat(WINDY).straight(n, 1));
+            Check.due("best of 0 turns", x.best(4, 0, 0), 0);
+            Check.due("span by z 0", x.span(n, 0, 0), Check.boat(WINDY).span(n, 0, 0));
+            Check.due("straight of 0 turns", x.straight(0, 1), 10000000);
         }
     }
 }

@@ -277,22 +277,33 @@ public final class RunEdgeTest {
 
     /** The WIND of TENTH t, its number from 0 on: in a RUN, and as THE BOAT goes. */
     private static void windOfEachTenth() {
-        for (int z : new int[] {0, 1, 77, 9998, 9999}) {
-            BandBoat x = Check.boat("q99,0,40,99;b0,8,1;p1,20;h1,1,0;w9;");
-            x.wind(10);
-            int pace = 200 - wind(z, 0, 9);
-            int place = pace;
-            x.go(1, z);
-            for (int t = 1; t < 40; t++) {
-                Check.due("PACE ahead of TENTH " + t, x.now(1), pace);
-                pace = Math.max(0, pace - pace * pace / 1000 - wind(z, t, 9));
-                place += pace;
-                Check.due("PLACE behind TENTH " + t, x.go(1, z), place);
-                Check.due("WHEN", x.when(10, z, place), pace == 0 ? x.when(10, z, place) : t + 1);
+        for (int w = 1; w <= 9; w++) {
+            for (int z : new int[] {0, 1, 77, 9998, 9999}) {
+                windOfEachTenth(w, z);
             }
-            Check.due("it lies still", x.now(1), 0);
-            Check.due("PLACE of the RUN", x.run(10, z, 1), place);
         }
+    }
+
+    private static void windOfEachTenth(int w, int z) {
+        BandBoat x = Check.boat(SUDDEN + "h1,1,0;w" + w + ";");
+        x.wind(10);
+        int pace = 200 - wind(z, 0, w);
+        int place = pace;
+        int tenths = 1;
+        x.go(1, z);
+        for (int t = 1; t < 120; t++) {
+            Check.due("PACE ahead of TENTH " + t, x.now(1), pace);
+            tenths += pace > 0 ? 1 : 0;
+            pace = Math.max(0, pace - pace * pace / 1000 - wind(z, t, w));
+            place += pace;
+            Check.due("PLACE behind TENTH " + t, x.go(1, z), place);
+            if (pace > 0) {
+                Check.due("WHEN of " + place, x.when(10, z, place), t + 1);
+            }
+        }
+        Check.due("it lies still", x.now(1), 0);
+        Check.due("TENTHS of the RUN", x.run(10, z, 0), tenths);
+        Check.due("PLACE of the RUN", x.run(10, z, 1), place);
     }
 
     /** 'by z -1 none'. */
@@ -373,6 +384,14 @@ public final class RunEdgeTest {
             side -= 20 * 4 * k / 1000;
         }
         Check.due("SIDE to the right", right.run(1, -1, 3), 10000000 + side);
+        // PUSH 31140 in TENTH 0 to the left, 18 (314 times 6 by 100) a TENTH to the right.
+        int turn = (31140 * 20 - 314 * 6) / 100;
+        side = 314 * turn / 1000;
+        for (int k = 2; k <= 600; k++) {
+            turn -= 18;
+            side += 314 * turn / 1000;
+        }
+        Check.due("SIDE to both", Check.boat(EVEN + "h99,1,20;r6;").run(EVEN_TURNS, -1, 3), 10000000 + side);
     }
 
     /** 'behind how many TENTHS T is 0 first (0: at once); none.' */
@@ -455,6 +474,9 @@ public final class RunEdgeTest {
     private static void wiseAtItsEdges() {
         Check.due("all are 0", Check.boat("q1,0,1,1;b0,1,40;h99,99,0;").wise(), 0);
         Check.due("the greatest n", Check.boat("q32,22,32,96;b0,1,40;p1,19;h81,40,11;r18;").wise(), 400);
+        // Here 401 turns would be wiser than all.
+        Check.due("400 at most", Check.boat("q21,29,40,99;b0,1,35;p7,16;h67,41,0;").wise(), 396);
+        Check.due("400 at most", Check.boat("q16,11,40,99;b0,1,38;p3,17;h66,29,0;").wise(), 394);
         // By 214 turns and more than one n behind it the PLACE is 19130, and no band snaps yet.
         BandBoat ties = Check.boat("q59,8,8,60;b0,1,36;p2,19;h45,43,13;");
         Check.due("the least", ties.wise(), 214);

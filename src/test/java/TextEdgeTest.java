@@ -36,6 +36,7 @@ public final class TextEdgeTest {
         theHighestFirst();
         threeHundredBytesAtMost();
         anEmptyText();
+        wipedAway();
         rangesOfNumbers();
         numbersAtTheirEdgesHold();
         snapsFromKnotsOn();
@@ -134,6 +135,23 @@ public final class TextEdgeTest {
         BandBoat y = Check.boat("q20,30,5,9;b0,2,10;" + "r1;".repeat(92) + "r020;");
         Check.due("count(1)", y.count(1), 300);
         Check.same("LAID by 300 bytes", Check.answersOf(y), Check.answersOf(Check.boat("q20,30,5,9;b0,2,10;r20;")));
+    }
+
+    /** 'THE TEXT is empty: how long it was.': of what stood in it nothing is read any more. */
+    private static void wipedAway() {
+        BandBoat x = new BandBoat();
+        String[] texts = {"r5;", "r5", "r55;", "q1,1,1,1;b0,1,1;", "", "q1,1,1,1;b0,1,1", "r1;".repeat(100), "r"};
+        int before = 0;
+        for (String text : texts) {
+            Check.due("wipe", x.wipe(), before);
+            Check.due("count(1)", x.count(1), 0);
+            Check.due("fault of nothing", x.fault(), NONE);
+            Check.put(x, text);
+            Check.due("fault of " + text, x.fault(), Check.faultOf(text));
+            before = text.length();
+        }
+        fault("r5", 0);
+        fault("q1,1,1,1;b0,1,1", 9);
     }
 
     private static void anEmptyText() {
@@ -310,6 +328,12 @@ public final class TextEdgeTest {
             }
             long[] without = Check.answersOf(Check.boat(base(k.letter)));
             Check.same("without " + k.letter, without, Check.answersOf(Check.boat(base(k.letter) + k.item())));
+            // An earlier TEXT's ITEM does not count.
+            BandBoat x = Check.boat("q99,1,2,3;b0,8,3;p9,19;h77,66,19;r19;c29;a59;w8;");
+            x.wipe();
+            Check.put(x, base(k.letter));
+            Check.due("lay", x.lay(), 1);
+            Check.same("without " + k.letter + ", behind another", Check.answersOf(x), without);
             for (int i = 0; i < k.numbers.length; i++) {
                 for (int beside : new int[] {k.numbers[i] - 1, k.numbers[i] + 1}) {
                     if (beside >= 0) {
@@ -389,8 +413,8 @@ public final class TextEdgeTest {
             Check.truth("now(" + what + ") is not as at first", x.now(what) != (what == 3 ? 10000 : what == 4 ? 10000000 : 0));
         }
         x.wind(1);
-        Check.due("fits", x.fits(999, 0), 0);
-        Check.due("told", x.told(50, 0), 0);
+        Check.due("fits", x.fits(30, 0), 0);
+        Check.due("told", x.told(20, 0), 0);
         Check.due("lay", x.lay(), 1);
         Check.same("as a new one", Witness.of(x), Witness.of(Check.boat(text)));
     }

@@ -16,7 +16,7 @@ public final class UnchangedTest {
     }
 
     /** A number of a call, with the range that is told. */
-    private record Number(String name, int low, int high, Call call) {
+    private record Argument(String name, int low, int high, Call call) {
     }
 
     private interface Maker {
@@ -26,16 +26,16 @@ public final class UnchangedTest {
     private record State(String name, Maker maker, long[] seen) {
     }
 
-    private static final List<Number> NUMBERS = new ArrayList<>();
+    private static final List<Argument> ARGUMENTS = new ArrayList<>();
 
     public static void main(String[] args) {
-        tellNumbers();
-        rangesOfNumbers();
+        tellArguments();
+        rangesOfArguments();
         State empty = state("empty", UnchangedTest::empty);
         State middling = state("middling", UnchangedTest::middling);
         State full = state("full", UnchangedTest::full);
         for (State s : List.of(empty, middling, full)) {
-            refuseNumbers(s);
+            refuseArguments(s);
             onlyAsks(s);
         }
         refuseSeveral(middling);
@@ -102,53 +102,53 @@ public final class UnchangedTest {
         Check.truth("something is told", x.told(20, 0) > 0);
     }
 
-    private static void number(String name, int low, int high, Call call) {
-        NUMBERS.add(new Number(name, low, high, call));
+    private static void argument(String name, int low, int high, Call call) {
+        ARGUMENTS.add(new Argument(name, low, high, call));
     }
 
-    private static void tellNumbers() {
-        number("write n", 1, 8, (x, v) -> x.write(v, 65));
-        number("pull parts", 0, 40000, (x, v) -> x.pull(v, false));
-        number("pull parts down", 0, 40000, (x, v) -> x.pull(v, true));
-        number("run n", 0, 400, (x, v) -> x.run(v, 5, 1));
-        number("run z", -1, 9999, (x, v) -> x.run(60, v, 1));
-        number("run what", 0, 4, (x, v) -> x.run(60, 5, v));
-        number("when n", 0, 400, (x, v) -> x.when(v, 5, 9));
-        number("when z", -1, 9999, (x, v) -> x.when(60, v, 9));
-        number("when d", 1, 99999, (x, v) -> x.when(60, 5, v));
-        number("lost n", 0, 400, (x, v) -> x.lost(v, 0));
-        number("lost what", 0, 1, (x, v) -> x.lost(60, v));
-        number("snap n", 0, 400, (x, v) -> x.snap(v));
-        number("best g", 1, 99, (x, v) -> x.best(v, 60, 0));
-        number("best n", 0, 400, (x, v) -> x.best(3, v, 0));
-        number("best what", 0, 3, (x, v) -> x.best(3, 60, v));
-        number("just d", 0, 99999, (x, v) -> x.just(v, 0));
-        number("just what", 0, 1, (x, v) -> x.just(500, v));
-        number("span n", 0, 400, (x, v) -> x.span(v, 5, 0));
-        number("span z", 0, 9999, (x, v) -> x.span(60, v, 0));
-        number("span what", 0, 1, (x, v) -> x.span(60, 5, v));
-        number("straight n", 0, 400, (x, v) -> x.straight(v, 0));
-        number("straight what", 0, 1, (x, v) -> x.straight(60, v));
-        number("two n", 1, 400, (x, v) -> x.two(v));
-        number("reading n", 0, 400, (x, v) -> x.reading(v, 5, 5));
-        number("reading up", 0, 9999, (x, v) -> x.reading(5, v, 5));
-        number("reading down", 0, 9999, (x, v) -> x.reading(5, 5, v));
-        number("fits e", 0, 999, (x, v) -> x.fits(v, 0));
-        number("fits what", 0, 4, (x, v) -> x.fits(30, v));
-        number("mark d", 1, 99999, (x, v) -> x.mark(v, 5));
-        number("mark t", 0, 600, (x, v) -> x.mark(5, v));
-        number("told e", 0, 50, (x, v) -> x.told(v, 0));
-        number("told what", 0, 9, (x, v) -> x.told(20, v));
-        number("wind n", 1, 400, (x, v) -> x.wind(v));
-        number("go tenths", 1, 99, (x, v) -> x.go(v, 5));
-        number("go z", -1, 9999, (x, v) -> x.go(5, v));
-        number("now what", 0, 5, (x, v) -> x.now(v));
-        number("count what", 0, 4, (x, v) -> x.count(v));
+    private static void tellArguments() {
+        argument("write n", 1, 8, (x, v) -> x.write(v, 65));
+        argument("pull parts", 0, 40000, (x, v) -> x.pull(v, false));
+        argument("pull parts down", 0, 40000, (x, v) -> x.pull(v, true));
+        argument("run n", 0, 400, (x, v) -> x.run(v, 5, 1));
+        argument("run z", -1, 9999, (x, v) -> x.run(60, v, 1));
+        argument("run what", 0, 4, (x, v) -> x.run(60, 5, v));
+        argument("when n", 0, 400, (x, v) -> x.when(v, 5, 9));
+        argument("when z", -1, 9999, (x, v) -> x.when(60, v, 9));
+        argument("when d", 1, 99999, (x, v) -> x.when(60, 5, v));
+        argument("lost n", 0, 400, (x, v) -> x.lost(v, 0));
+        argument("lost what", 0, 1, (x, v) -> x.lost(60, v));
+        argument("snap n", 0, 400, (x, v) -> x.snap(v));
+        argument("best g", 1, 99, (x, v) -> x.best(v, 60, 0));
+        argument("best n", 0, 400, (x, v) -> x.best(3, v, 0));
+        argument("best what", 0, 3, (x, v) -> x.best(3, 60, v));
+        argument("just d", 0, 99999, (x, v) -> x.just(v, 0));
+        argument("just what", 0, 1, (x, v) -> x.just(500, v));
+        argument("span n", 0, 400, (x, v) -> x.span(v, 5, 0));
+        argument("span z", 0, 9999, (x, v) -> x.span(60, v, 0));
+        argument("span what", 0, 1, (x, v) -> x.span(60, 5, v));
+        argument("straight n", 0, 400, (x, v) -> x.straight(v, 0));
+        argument("straight what", 0, 1, (x, v) -> x.straight(60, v));
+        argument("two n", 1, 400, (x, v) -> x.two(v));
+        argument("reading n", 0, 400, (x, v) -> x.reading(v, 5, 5));
+        argument("reading up", 0, 9999, (x, v) -> x.reading(5, v, 5));
+        argument("reading down", 0, 9999, (x, v) -> x.reading(5, 5, v));
+        argument("fits e", 0, 999, (x, v) -> x.fits(v, 0));
+        argument("fits what", 0, 4, (x, v) -> x.fits(30, v));
+        argument("mark d", 1, 99999, (x, v) -> x.mark(v, 5));
+        argument("mark t", 0, 600, (x, v) -> x.mark(5, v));
+        argument("told e", 0, 50, (x, v) -> x.told(v, 0));
+        argument("told what", 0, 9, (x, v) -> x.told(20, v));
+        argument("wind n", 1, 400, (x, v) -> x.wind(v));
+        argument("go tenths", 1, 99, (x, v) -> x.go(v, 5));
+        argument("go z", -1, 9999, (x, v) -> x.go(5, v));
+        argument("now what", 0, 5, (x, v) -> x.now(v));
+        argument("count what", 0, 4, (x, v) -> x.count(v));
     }
 
     /** The last inside at each end is not BAD, the first outside is, and so is what is far off. */
-    private static void rangesOfNumbers() {
-        for (Number n : NUMBERS) {
+    private static void rangesOfArguments() {
+        for (Argument n : ARGUMENTS) {
             for (int v : new int[] {n.low, n.low + 1, n.high - 1, n.high}) {
                 Check.truth(n.name + " " + v + " is told", n.call.of(new BandBoat(), v) != BandBoat.BAD);
             }
@@ -158,7 +158,7 @@ public final class UnchangedTest {
         }
     }
 
-    private static int[] outside(Number n) {
+    private static int[] outside(Argument n) {
         return new int[] {n.low - 1, n.high + 1, n.low - 2, n.high + 256, n.high + 65536, MIN, MIN + 1, MAX};
     }
 
@@ -170,8 +170,8 @@ public final class UnchangedTest {
     }
 
     /** BAD is the first of several: in a full object, too, where FULL or NO would be due behind it. */
-    private static void refuseNumbers(State s) {
-        for (Number n : NUMBERS) {
+    private static void refuseArguments(State s) {
+        for (Argument n : ARGUMENTS) {
             for (int v : new int[] {n.low - 1, n.high + 1, MIN, MAX}) {
                 refused(s, n.name, n.call, v, BandBoat.BAD);
             }
