@@ -308,20 +308,22 @@ public final class BandBoat {
     }
 
     public int keep() {
-        if (keptCount < 0 || keptCount >= kept.length) {
+        Motion free = keptAt(keptCount);
+        if (free == null) {
             return FULL;
         }
-        kept[keptCount].copy(boat);
+        free.copy(boat);
         keptCount++;
         return keptCount;
     }
 
     public int back() {
-        if (keptCount < 1 || keptCount > kept.length) {
+        Motion last = keptAt(keptCount - 1);
+        if (last == null) {
             return NO;
         }
+        boat.copy(last);
         keptCount--;
-        boat.copy(kept[keptCount]);
         return keptCount;
     }
 
@@ -353,6 +355,11 @@ public final class BandBoat {
     /** Divides, cut towards 0; no divisor that a TEXT can tell is 0. */
     private static int cut(int x, int by) {
         return by == 0 ? 0 : x / by;
+    }
+
+    /** Where a boat is KEPT, or null where there is no such place. */
+    private Motion keptAt(int which) {
+        return which >= 0 && which < kept.length ? kept[which] : null;
     }
 
     private void dropMemos() {
